@@ -91,8 +91,8 @@ public final class DefineTest {
         for (int c = 0; c <= 255; c++) {
             boolean character = c == 9 || c == 10 || c == 13 || c >= 32 && c <= 126;
             if (!character) {
-                Check.faultOfDefine(desk, 'a', "ok" + (char) c, 1, 2);
-                Check.faultOfDefine(desk, 'a', "&a" + (char) c, 1, 2);
+                Check.faultOfDefine(new ValueDesk(), 'a', "ok" + (char) c, 1, 2);
+                Check.faultOfDefine(new ValueDesk(), 'a', "&a" + (char) c, 1, 2);
             }
         }
         Check.faultOfDefine(desk, 'a', "x".repeat(100) + "\1", 1, 100);

@@ -26,7 +26,7 @@ public final class FaultTest {
         for (int c = 0; c <= 255; c++) {
             boolean character = c == 9 || c == 10 || c == 13 || c >= 32 && c <= 126;
             if (!character) {
-                Check.faultOfValue(desk, "ok" + (char) c, 99, 1, 2);
+                Check.faultOfValue(new ValueDesk(), "ok" + (char) c, 99, 1, 2);
             }
         }
         Check.faultOfValue(desk, "p&b;", 99, 1, 1);
@@ -74,11 +74,11 @@ public final class FaultTest {
         for (int c = 0; c <= 300; c++) {
             boolean character = c == 9 || c == 10 || c == 13 || c >= 32 && c <= 126;
             if (character) {
-                Check.valueIs(desk, "&#" + c + ";", 0, "" + (char) c);
-                Check.valueIs(desk, "&#x" + Integer.toHexString(c) + ";", 0, "" + (char) c);
+                Check.valueIs(new ValueDesk(), "&#" + c + ";", 0, "" + (char) c);
+                Check.valueIs(new ValueDesk(), "&#x" + Integer.toHexString(c) + ";", 0, "" + (char) c);
             } else {
-                Check.faultOfValue(desk, "x&#" + c + ";", 99, 5, 1);
-                Check.faultOfValue(desk, "xy&#x" + Integer.toHexString(c) + ";", 99, 5, 2);
+                Check.faultOfValue(new ValueDesk(), "x&#" + c + ";", 99, 5, 1);
+                Check.faultOfValue(new ValueDesk(), "xy&#x" + Integer.toHexString(c) + ";", 99, 5, 2);
             }
         }
         Check.faultOfValue(desk, "&#999999;", 99, 5, 0);

@@ -9,7 +9,8 @@ import java.util.regex.Pattern;
  * way: on Strings, with patterns, and with an exception for a fault.
  */
 public final class ModelTest {
-    private static final int RUNS = 1500;
+    private static final int RUNS = 12000;
+    /** The document promises no more calls of one object. */
     private static final int CALLS = 512;
 
     private static final class Fault extends Exception {
@@ -207,6 +208,7 @@ public final class ModelTest {
     private final Model model = new Model();
     private final int letters;
     private final int seed;
+    private int calls;
     private static final int[] MET = new int[11];
 
     private ModelTest(int seed) {
@@ -218,9 +220,12 @@ public final class ModelTest {
     public static void main(String[] args) {
         for (int seed = 1; seed <= RUNS; seed++) {
             ModelTest test = new ModelTest(seed);
-            for (int call = 0; call < CALLS; call++) {
+            while (test.calls < CALLS / 2) {
                 test.oneCall();
+                test.someOfWhatIsTold();
             }
+            test.allThatIsTold();
+            Check.yes("seed " + seed + " keeps within its calls: " + test.calls, test.calls <= CALLS);
         }
         // A drawing that meets a fault seldom would prove little about it.
         for (int kind = 1; kind < MET.length; kind++) {
@@ -230,6 +235,7 @@ public final class ModelTest {
     }
 
     private void due(String call, long got, long want) {
+        calls++;
         Check.due("seed " + seed + ": " + call, got, want);
     }
 
@@ -253,7 +259,6 @@ public final class ModelTest {
         } else if (draw.nextInt(4) == 0) {
             due("clear()", desk.clear(), model.clear());
         }
-        allThatIsTold();
     }
 
     private static int met(int answer) {
@@ -261,6 +266,12 @@ public final class ModelTest {
             MET[-answer]++;
         }
         return answer;
+    }
+
+    private void someOfWhatIsTold() {
+        due("place()", desk.place(), model.place);
+        int what = draw.nextInt(7) - 1;
+        due("count(" + what + ")", desk.count(what), model.count(what));
     }
 
     private void allThatIsTold() {
@@ -272,7 +283,9 @@ public final class ModelTest {
             due("characters(" + k + ")", desk.characters(k), model.eightOf(model.last, k));
         }
         for (int e = 0; e < letters; e++) {
-            due("text(" + e + ", 0)", desk.text(e, 0), model.text(e, 0));
+            for (int k = 0; k < 48; k += 8) {
+                due("text(" + e + ", " + k + ")", desk.text(e, k), model.text(e, k));
+            }
         }
     }
 
