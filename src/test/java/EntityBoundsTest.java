@@ -133,10 +133,11 @@ public final class EntityBoundsTest {
 
     /** count: "3 the meter behind the last value() (also with a fault), 4 how deep [..] at most in it" */
     private static void theMeterBehindAFault() {
-        String[] tapes = {"&a;&", "&a;&z;", "&a;&r;", "&a;<", "&a;&#1;", "&a;&b;", "&a;&h;", "&a;&x;&x;&x;", "&", "&b;&", ""};
-        int[] answers = {-1, -2, -3, -4, -5, -6, -7, -8, -1, -1, 0};
-        int[] meters = {3, 3, 6, 3, 3, 3, 4, 303, 0, 6, 0};
-        int[] depths = {1, 1, 1, 1, 1, 1, 1, 1, 0, 2, 0};
+        String[] tapes = {"&a;&", "&a;&z;", "&a;&r;", "&a;<", "&a;&#1;", "&a;&b;", "&a;&h;", "&a;&x;&x;&x;", "&", "&b;&", "",
+            "&b;"};
+        int[] answers = {-1, -2, -3, -4, -5, -6, -7, -8, -1, -1, 0, -6};
+        int[] meters = {3, 3, 6, 3, 3, 3, 4, 303, 0, 6, 0, 3};
+        int[] depths = {1, 1, 1, 1, 1, 1, 1, 1, 0, 2, 0, 1};
         for (int i = 0; i < tapes.length; i++) {
             ValueDesk desk = Check.desk("a=abc", "b=&a;", "r=&r;", "h=&#38;", "x=" + "x".repeat(100));
             Check.value(desk, "&b;&b;&b;", 0, 999);

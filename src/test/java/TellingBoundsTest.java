@@ -10,6 +10,7 @@ public final class TellingBoundsTest {
         textRoundTheEnds();
         textOfEntitiesRoundTheEnds();
         clearOfNoneUpToAll();
+        clearLeavesAllElse();
         countOfWhat();
         countOfTheTape();
         countOfTheLastValue();
@@ -165,6 +166,24 @@ public final class TellingBoundsTest {
         ValueDesk desk = Check.desk("a=x", "b=&", "a=y");
         Check.due("count(1) of a fault and of one that had a text", desk.count(1), 1);
         Check.due("clear()", desk.clear(), 1);
+    }
+
+    /** Nothing but the entities' texts is cleared. */
+    private static void clearLeavesAllElse() {
+        ValueDesk desk = Check.desk("a=x", "z=&a;");
+        Check.value(desk, "p&z;", 0, 9);
+        Check.faultOfDefine(desk, 'b', "q&", 1, 2);
+        Check.put(desk, "&a;");
+        Check.due("clear()", desk.clear(), 2);
+        Check.due("place()", desk.place(), 2);
+        int[] due = {3, 0, 2, 4, 2};
+        for (int what = 0; what <= 4; what++) {
+            Check.due("count(" + what + ")", desk.count(what), due[what]);
+        }
+        Check.due("the value still", Check.lastValue(desk), "px");
+        Check.due("the tape still, its entity without a text", desk.value(0, 9), -2);
+        Check.due("define anew", Check.define(desk, 'a', "y"), 1);
+        Check.valueIs(desk, "&a;", 0, "y");
     }
 
     /** "-1 for another what" */

@@ -16,7 +16,7 @@ public final class ValueTest {
         Check.valueIs(desk, "\ta\nb\rc d\r\n", 0, " a b c d  ");
         for (int c = 32; c <= 126; c++) {
             if (c != '&' && c != '<') {
-                Check.valueIs(desk, "" + (char) c, 0, "" + (char) c);
+                Check.valueIs(new ValueDesk(), "" + (char) c, 0, "" + (char) c);
             }
         }
     }
